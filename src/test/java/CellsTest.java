@@ -18,6 +18,9 @@ public final class CellsTest {
         promise13GoOfAsideOnly();
         promise13WholeGroups();
         promise13WholeAboveThePressedOne();
+        promise13ProtectedKeptCells();
+        promise13ProtectedLooseCellsCount();
+        promise13RoomForOneAside();
         promise13NoneLeft();
         promise13AskerGoes();
         promise14Free();
@@ -279,6 +282,56 @@ public final class CellsTest {
         due("two went", x.done(2), 2);
         due("not the one above", x.about(3, 6), 0);
         due("that was PRESSED", x.gone(2, 1), 2);
+    }
+
+    private static void promise13ProtectedKeptCells() {
+        ShareKeeper x = withTasks(20, 40, 1, 2, 0);
+        x.cellsOf(1, 10, -1, -1);
+        x.ask(0, 10, false);
+        x.ask(1, 6, false);
+        due("ask", x.ask(2, 8, false), 8);
+        due("the most, but protected", x.about(0, 5), 0);
+        due("the most of those that may lose any", x.about(1, 5), 4);
+        x.cellsOf(2, 2, -1, -1);
+        x.free(2, 8, false);
+        x.ask(2, 8, true);
+        x.worth(2, 7);
+        due("its own loose ones, then one goes though there is room ASIDE", x.ask(2, 9, false), 9);
+        due("the most cells", x.gone(0, 0), 0);
+        due("dropped", x.done(0), 8);
+        due("put aside", x.done(1), 0);
+        due("went", x.done(2), 1);
+    }
+
+    private static void promise13ProtectedLooseCellsCount() {
+        ShareKeeper x = withTasks(20, 0, 1, 1, 0);
+        x.cellsOf(1, 18, -1, -1);
+        x.worth(2, 1);
+        x.ask(0, 8, false);
+        x.ask(1, 2, false);
+        x.ask(1, 8, true);
+        due("ask", x.ask(2, 3, false), 3);
+        due("none may be dropped", x.done(0), 0);
+        due("KEPT and LOOSE ones count", x.gone(0, 0), 1);
+        due("one went", x.count(8), 1);
+        ShareKeeper y = withTasks(20, 0, 1, 1, 0);
+        y.cellsOf(1, 18, -1, -1);
+        y.worth(2, 1);
+        y.ask(0, 8, true);
+        y.ask(0, 2, false);
+        y.ask(1, 8, false);
+        y.ask(2, 3, false);
+        due("of the first too", y.gone(0, 0), 0);
+    }
+
+    private static void promise13RoomForOneAside() {
+        ShareKeeper x = withTasks(20, 1, 0, 0);
+        x.ask(0, 19, false);
+        due("ask", x.ask(1, 2, false), 2);
+        due("one is put aside", x.about(0, 5), 1);
+        due("free one", x.free(1, 1, false), 1);
+        due("back of one", x.back(0), 19);
+        due("none aside", x.count(7), 0);
     }
 
     private static void promise13NoneLeft() {

@@ -10,6 +10,8 @@ public final class ImagesTest {
         promise26NoImage();
         promise26AllComesBack();
         promise26RunsOnAlike();
+        promise26LimitsComeBack();
+        promise26WhoWantedComesBack();
         promise26NewOnesAreNew();
         promise26GoneOnesComeBack();
         promise25TheOneBeforeGoes();
@@ -123,6 +125,88 @@ public final class ImagesTest {
         due("move", x.move(2, 0), y.move(2, 0));
         due("leasts", x.cellsOf(3, 45, -1, -1), y.cellsOf(3, 45, -1, -1));
         same("alike", seen(x), seen(y));
+    }
+
+    private static void promise26LimitsComeBack() {
+        ShareKeeper x = new ShareKeeper(0, 0, 6);
+        x.group(0, 1);
+        x.task(1);
+        x.task(0);
+        x.most(1, 4, 3);
+        x.cellsOf(1, 5, 9, 12);
+        x.ask(0, 12, false);
+        x.ask(1, 14, false);
+        x.run(10);
+        due("saved", x.look(1, 5), 3);
+        due("aside", x.about(0, 5), 6);
+        x.image();
+        x.most(1, 2, 0);
+        x.cellsOf(1, 0, -1, -1);
+        x.run(10);
+        x.free(1, 14, false);
+        x.back(0);
+        x.restore();
+        due("saved", x.look(1, 5), 3);
+        due("room", x.look(1, 4), 7);
+        due("aside", x.about(0, 5), 6);
+        due("aside in all", x.count(7), 6);
+        due("LEAST", x.move(1, 0), 0);
+        x.group(0, 0);
+        due("LEAST of the others", x.cellsOf(2, 16, -1, -1), -3);
+        due("LEAST of the others", x.cellsOf(2, 15, -1, -1), 0);
+        x.run(10);
+        due("TO SAVE", x.look(1, 5), 3);
+        due("TOP", x.ask(0, 7, true), -3);
+        due("by TOP", x.gone(0, 1), 1);
+        due("at the tick", x.gone(0, 3), 21);
+        x.image();
+        x.ask(1, 50, false);
+        due("the other went", x.gone(1, 0), 1);
+        x.restore();
+        due("the first stays gone", x.gone(0, 0), 0);
+        due("the other doesn't", x.gone(1, 0), -1);
+        goneOfAnImage();
+    }
+
+    private static void goneOfAnImage() {
+        ShareKeeper x = new ShareKeeper(0, 0, 0);
+        x.task(0);
+        x.task(0);
+        x.image();
+        x.ask(0, 9, false);
+        x.ask(0, 20, false);
+        due("0 went", x.gone(0, 0), 0);
+        x.restore();
+        x.ask(1, 9, false);
+        x.ask(1, 20, false);
+        due("now 1 went", x.gone(0, 0), 1);
+        due("0 didn't", x.about(0, 6), 0);
+    }
+
+    private static void promise26WhoWantedComesBack() {
+        ShareKeeper x = new ShareKeeper(0, 0, 0);
+        x.task(0);
+        x.task(0);
+        x.weight(101, 10);
+        x.work(0, 50);
+        x.run(5);
+        x.image();
+        x.work(1, 9);
+        x.run(2);
+        x.restore();
+        x.work(1, 9);
+        x.run(1);
+        due("it didn't WANT before: lifted to 40000", x.vtime(101), 140000);
+        x.image();
+        x.free(0, 1, false);
+        x.group(0, 0);
+        x.run(100);
+        x.run(10);
+        due("all is done", x.about(1, 1), 0);
+        x.restore();
+        x.run(1);
+        due("it WANTED before: not lifted", x.vtime(101), 140000);
+        due("the other goes on", x.vtime(100), 60000);
     }
 
     private static void promise26NewOnesAreNew() {

@@ -15,6 +15,10 @@ public final class TicksTest {
         promise11Floor();
         promise11FloorOfGroups();
         promise11WantedWithoutTick();
+        promise11WaitingTasksAreNotLifted();
+        promise11GroupsThatRestedAreLifted();
+        promise11DeepTrees();
+        promise11FullHouse();
         promise11High();
         promise11Saved();
         promise11SavedOnlyOfSaving();
@@ -24,6 +28,7 @@ public final class TicksTest {
         promise20PressedMoves();
         promise23Even();
         promise24Plan();
+        promise24PlanOfSaving();
         CHECKS.end();
     }
 
@@ -175,6 +180,102 @@ public final class TicksTest {
         due("vtime", x.vtime(1), 40000);
     }
 
+    private static void promise11WaitingTasksAreNotLifted() {
+        ShareKeeper x = new ShareKeeper(1, 0, 0);
+        x.task(0);
+        x.task(0);
+        x.weight(100, 1000);
+        x.weight(101, 10);
+        x.work(0, 20);
+        x.work(1, 20);
+        x.run(2);
+        due("the floor is 100000", x.vtime(101), 200000);
+        due("below it", x.vtime(100), 2000);
+        x.run(1);
+        due("it WANTED in the tick before: not lifted", x.vtime(100), 3000);
+    }
+
+    private static void promise11GroupsThatRestedAreLifted() {
+        ShareKeeper x = new ShareKeeper(0, 0, 0);
+        x.group(0, 0);
+        x.task(1);
+        x.task(0);
+        x.work(0, 1);
+        x.work(1, 50);
+        x.run(11);
+        due("one tick of the group", x.vtime(1), 10000);
+        due("ten of the task", x.vtime(101), 100000);
+        due("the group doesn't WANT", x.even(0), -2);
+        x.work(0, 5);
+        due("not lifted for even()", x.even(0), 90000);
+        x.run(1);
+        due("lifted to 90000, then a tick", x.vtime(1), 100000);
+        x.freeze(1, true);
+        x.run(10);
+        due("the task alone", x.vtime(101), 200000);
+        x.freeze(1, false);
+        x.run(1);
+        due("lifted again", x.vtime(1), 200000);
+    }
+
+    private static void promise11DeepTrees() {
+        ShareKeeper x = new ShareKeeper(0, 0, 0);
+        for (int g = 1; g <= 5; g++) {
+            x.group(0, 0);
+        }
+        for (int g = 4; g >= 1; g--) {
+            due("lower numbers stand lower", x.move(g, g + 1), 0);
+        }
+        due("five below", x.look(1, 8), 5);
+        x.task(1);
+        x.task(3);
+        x.task(0);
+        x.work(0, 9);
+        x.work(1, 9);
+        x.work(2, 9);
+        String order = "";
+        for (int i = 0; i < 8; i++) {
+            x.run(1);
+            order += x.who(0);
+        }
+        due("by turns: " + order, order.equals("02120212") ? 1 : 0, 1);
+        x.most(2, 0, 0);
+        x.run(2);
+        due("1 of 2 without room", x.about(0, 2), 2);
+        due("the others go on", x.about(1, 2) + x.about(2, 2), 8);
+    }
+
+    private static void promise11FullHouse() {
+        ShareKeeper x = new ShareKeeper(3, 80, 40);
+        for (int g = 1; g < 20; g++) {
+            x.group((g - 1) / 4, 0);
+        }
+        for (int t = 0; t < 32; t++) {
+            x.task(t % 20);
+            x.work(t, 100);
+            x.ask(t, 3, false);
+        }
+        due("run", x.run(20), 80);
+        due("used", x.look(0, 2), 80);
+        due("in all", x.look(0, 7), 32);
+        due("even", x.even(19), -2);
+        due("plan", x.plan(31, 200) >= 10 ? 1 : 0, 1);
+        due("move", x.move(19, 1), 0);
+        due("least", x.cellsOf(19, 0, 5, 50), 0);
+        due("image", x.image(), 21);
+        x.worth(31, 1);
+        due("gone", x.ask(31, 200, true), -3);
+        due("all went", x.count(8), 32);
+        due("the last", x.gone(31, 0), 31);
+        due("no more", x.gone(32, 0), -1);
+        due("keep", x.keep(0, 4, 0), 0);
+        due("the last flag", x.element(0, 31), 1);
+        due("restore", x.restore(), 21);
+        due("keep", x.keep(0, 3, 0), 0);
+        due("the last short", x.element(0, 59), x.about(19, 5));
+        due("none left", x.count(8), 0);
+    }
+
     private static void promise11High() {
         ShareKeeper x = new ShareKeeper(0, 30, 0);
         x.group(0, 0);
@@ -214,6 +315,9 @@ public final class TicksTest {
         x.freeze(1, true);
         x.run(10);
         due("up to 2", x.look(1, 5), 2);
+        x.most(1, 0, 2);
+        x.run(10);
+        due("MOST 0 saves what was saved", x.look(1, 5), 2);
         x.most(1, -1, 2);
         due("stays within the period", x.look(1, 5), 2);
         x.run(10);
@@ -391,5 +495,22 @@ public final class TicksTest {
         due("as planned", x.about(0, 2), 40);
         due("the other as planned", x.about(1, 2), 100);
         due("on from there", x.plan(0, 10), 42);
+    }
+
+    private static void promise24PlanOfSaving() {
+        ShareKeeper x = new ShareKeeper(0, 0, 0);
+        x.group(0, 1);
+        x.task(1);
+        x.task(0);
+        x.most(1, 3, 5);
+        x.run(19);
+        x.work(0, 100);
+        x.weight(101, 1);
+        due("what is SAVED is planned too", x.plan(0, 11), 1 + 8);
+        due("in the next period as well", x.plan(0, 30), 1 + 8 + 3 + 3);
+        x.freeze(1, true);
+        due("frozen", x.plan(0, 30), 0);
+        x.freeze(1, false);
+        due("as told", x.run(30), 15);
     }
 }

@@ -84,7 +84,7 @@ public final class ShareKeeper {
 
     public int weight(int which, int weight) {
         Child child = live.childAt(which);
-        if (child == null || child == live.root || !isWithin(weight, 1, MAX_WEIGHT)) {
+        if (child == null || !isWithin(weight, 1, MAX_WEIGHT)) {
             return NO_SUCH;
         }
         int before = child.weight;
@@ -729,7 +729,11 @@ public final class ShareKeeper {
             return task == null || task.gone ? null : task;
         }
 
+        /** None for THE ROOT: it stands under nothing, so it is no CHILD and has no share to tell. */
         Child childAt(int which) {
+            if (which == root.number) {
+                return null;
+            }
             return which < TASK_OFFSET ? groupAt(which) : taskAt(which - TASK_OFFSET);
         }
 

@@ -660,7 +660,7 @@ final class PlainReading {
     }
 
     long vtime(int which) {
-        if (isGroup(which) || (which >= 100 && isTask(which - 100))) {
+        if ((which != 0 && isGroup(which)) || (which >= 100 && isTask(which - 100))) {
             return vtimeOf(which);
         }
         return -1;

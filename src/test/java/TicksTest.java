@@ -363,7 +363,9 @@ public final class TicksTest {
 
     private static void promise19Vtime() {
         ShareKeeper x = new ShareKeeper(0, 0, 0);
+        due("root of a new one", x.vtime(0), -1);
         x.group(0, 0);
+        due("group of a new one", x.vtime(1), 0);
         x.task(1);
         x.weight(1, 3);
         x.weight(100, 7);
@@ -371,11 +373,13 @@ public final class TicksTest {
         x.run(2);
         due("group", x.vtime(1), 666666);
         due("task", x.vtime(100), 285714);
-        due("root", x.vtime(0), 0);
+        due("root behind ticks", x.vtime(0), -1);
         due("no group", x.vtime(2), -1);
         due("99", x.vtime(99), -1);
         due("no task", x.vtime(101), -1);
         due("-1", x.vtime(-1), -1);
+        due("lowest", x.vtime(Integer.MIN_VALUE), -1);
+        due("highest", x.vtime(Integer.MAX_VALUE), -1);
         x.weight(1, 1);
         x.weight(100, 1000);
         x.run(5);

@@ -149,10 +149,10 @@ public final class ShareKeeper {
 
     public int work(int task, int n) {
         Task given = live.presentTask(task);
-        if (given == null || !isWithin(n, 1, MAX_WORK_GIVEN)) {
+        if (given == null || !isWithin(n, 1, MAX_WORK_GIVEN) || n > MAX_WORK - given.work) {
             return NO_SUCH;
         }
-        given.work = Math.min(MAX_WORK, given.work + n);
+        given.work += n;
         return given.work;
     }
 

@@ -431,7 +431,10 @@ final class PlainReading {
             return -1;
         }
         T t = w.tasks.get(task);
-        t.work = Math.min(100000, t.work + n);
+        if (t.work + n > 100000) {
+            return -1;
+        }
+        t.work += n;
         return t.work;
     }
 

@@ -45,11 +45,19 @@ public final class TicksTest {
             x.work(0, 1000);
         }
         due("99001", x.about(0, 1), 99001);
+        due("one more than 100000", x.work(0, 1000), -1);
+        due("a refused call gives none", x.about(0, 1), 99001);
         due("999 more", x.work(0, 999), 100000);
-        due("no more than 100000", x.work(0, 1), 100000);
+        due("not one beyond 100000", x.work(0, 1), -1);
+        due("nor many", x.work(0, 1000), -1);
+        due("it has what it had", x.about(0, 1), 100000);
         x.run(5);
         due("some were done", x.about(0, 1), 99995);
-        due("up to 100000", x.work(0, 6), 100000);
+        due("one too many for that", x.work(0, 6), -1);
+        due("nothing is cut", x.about(0, 1), 99995);
+        due("up to 100000", x.work(0, 5), 100000);
+        x.task(0);
+        due("another task has its own", x.work(1, 1), 1);
     }
 
     private static void promise10Worth() {

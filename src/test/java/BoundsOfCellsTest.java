@@ -328,7 +328,8 @@ public final class BoundsOfCellsTest {
         x.cellsOf(1, 10, -1, 10);
         x.ask(0, 10, true);
         due("ask", x.ask(1, 10, false), 10);
-        due("all were dropped", x.about(0, 4), 0);
+        due("all were dropped", x.done(0), 10);
+        due("none went", x.count(8), 0);
     }
 
     /** "and in which the TASK that asks isn't"; "without any: all" */
@@ -337,7 +338,8 @@ public final class BoundsOfCellsTest {
         x.cellsOf(1, 20, -1, -1);
         x.ask(0, 20, true);
         due("ask", x.ask(1, 20, false), 20);
-        due("all were dropped", x.about(0, 4), 0);
+        due("all were dropped", x.done(0), 20);
+        due("none went", x.count(8), 0);
         x.free(1, 20, false);
         x.ask(0, 20, true);
         x.worth(2, 1);
@@ -626,7 +628,9 @@ public final class BoundsOfCellsTest {
         due("highest", x.free(0, HIGHEST, false), -1);
         due("KEPT stay", x.about(0, 3), 3);
         due("LOOSE stay", x.about(0, 4), 5);
+        x.run(1);
         due("all but one", x.free(0, 2, false), 1);
+        due("TOUCH stays", x.about(0, 7), 1);
         due("the last one", x.free(0, 1, false), 0);
         due("no more", x.free(0, 1, false), -1);
         due("LOOSE stay", x.about(0, 4), 5);
@@ -702,6 +706,14 @@ public final class BoundsOfCellsTest {
         due("one of the other's is put ASIDE", y.back(0), 5);
         due("that one", y.about(1, 5), 1);
         due("in all", y.count(7), 1);
+        ShareKeeper z = withTasks(20, 6, 0, 0);
+        z.ask(0, 20, false);
+        z.ask(1, 5, false);
+        due("5 ASIDE, 15 KEPT: room for one", z.about(0, 5), 5);
+        z.free(1, 4, false);
+        due("5 come back, one of its own is put ASIDE for them", z.back(0), 19);
+        due("that one stays there", z.about(0, 5), 1);
+        due("put ASIDE", z.done(1), 1);
     }
 
     /** "Its TOUCH is the tick that is open: the one before." */

@@ -35,6 +35,7 @@ public final class BoundsOfGroupsTest {
         moveToAFloorOfNone();
         moveBillsToTheRoot();
         moveBillsOfAPeriodThatEnded();
+        moveIntoAndOutOfASavingGroup();
         lookAtAllThatIsThere();
         lookAtRoom();
         CHECKS.end();
@@ -526,6 +527,34 @@ public final class BoundsOfGroupsTest {
         due("6 in this PERIOD", x.look(2, 3), 6);
         due("ROOM is 0 at least", x.look(2, 4), 0);
         due("of the other", x.look(1, 3), 0);
+    }
+
+    /** What came by a move is less SAVED (0 at least), what left is more. */
+    private static void moveIntoAndOutOfASavingGroup() {
+        for (int done = 4; done <= 6; done++) {
+            ShareKeeper x = new ShareKeeper(0, 0, 0);
+            x.group(0, 1);
+            x.group(0, 0);
+            x.task(2);
+            x.most(1, 5, 9);
+            x.work(0, done);
+            x.run(9);
+            x.move(2, 1);
+            x.run(1);
+            due(done + " came, SAVED", x.look(1, 5), Math.max(0, 5 - done));
+            ShareKeeper y = new ShareKeeper(0, 0, 0);
+            y.group(0, 1);
+            y.group(1, 0);
+            y.task(2);
+            y.most(1, 6, 9);
+            y.work(0, done);
+            y.run(9);
+            due(done + " are done, ROOM", y.look(1, 4), 6 - done);
+            y.move(2, 0);
+            due(done + " left, ROOM", y.look(1, 4), 6);
+            y.run(1);
+            due(done + " left, SAVED", y.look(1, 5), 6);
+        }
     }
 
     /** "Of a GROUP: 0 KIND, .. 9 whether it is FROZEN. -1." */

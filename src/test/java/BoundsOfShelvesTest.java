@@ -34,6 +34,7 @@ public final class BoundsOfShelvesTest {
         copyNone();
         copyWrapsNowhere();
         copyOntoItself();
+        copyLeavesTheOthers();
         copyRefusalsInOrder();
         heftOfEachKind();
         heftAtItsEnds();
@@ -530,6 +531,43 @@ public final class BoundsOfShelvesTest {
         same("came", row(y, 0), "110");
         due("two down", y.copy(0, 1, 0, 0, 2), 2);
         same("came", row(y, 0), "100");
+    }
+
+    /** "n elements": none beside them, on either side. */
+    private static void copyLeavesTheOthers() {
+        ShareKeeper x = new ShareKeeper(0, 20, 0);
+        for (int t = 0; t < 3; t++) {
+            x.task(0);
+            x.ask(t, 2 * t + 1, false);
+            x.ask(t, 2 * t + 2, true);
+        }
+        x.keep(0, 3, 0);
+        x.make(1, 3, 7);
+        same("shorts", row(x, 0), "120340560");
+        due("down", x.copy(0, 4, 1, 2, 1), 1);
+        same("one came", row(x, 1), "0040000");
+        due("up", x.copy(0, 0, 1, 4, 1), 1);
+        same("one came", row(x, 1), "0040100");
+        due("down within it", x.copy(0, 3, 0, 1, 1), 1);
+        same("one came", row(x, 0), "130340560");
+        due("up within it", x.copy(0, 0, 0, 5, 1), 1);
+        same("one came", row(x, 0), "130341560");
+        ShareKeeper y = new ShareKeeper(0, 0, 0);
+        for (int t = 0; t < 4; t++) {
+            y.task(0);
+        }
+        for (int t = 0; t < 2; t++) {
+            y.ask(t, 20, false);
+            y.ask(t, 1, false);
+        }
+        y.keep(0, 4, 0);
+        y.make(1, 4, 4);
+        y.make(2, 4, 4);
+        same("booleans", row(y, 0), "1100");
+        due("to the same place", y.copy(0, 1, 1, 1, 1), 1);
+        same("one came", row(y, 1), "0100");
+        due("up", y.copy(0, 0, 2, 1, 1), 1);
+        same("one came", row(y, 2), "0100");
     }
 
     /** "-1; -11: of either; -12: one is no ROW, or they are not of one kind; -13" */

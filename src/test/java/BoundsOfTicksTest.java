@@ -37,6 +37,8 @@ public final class BoundsOfTicksTest {
         floorAtLeast();
         floorOfTheFirstTick();
         floorAfterATickOfRest();
+        floorByThoseThatWereInItThen();
+        floorOfTheLastProcessor();
         vtimeOfAllThatIsThere();
         pressedUpToThirty();
         pressedThirtyTicksAgo();
@@ -46,6 +48,7 @@ public final class BoundsOfTicksTest {
         evenOfTheGreatest();
         planUpToTwoHundred();
         planAsARunWould();
+        theLastOfAllCalls();
         CHECKS.end();
     }
 
@@ -574,6 +577,53 @@ public final class BoundsOfTicksTest {
         due("no rest: not lifted", y.vtime(100), 12000);
     }
 
+    /** "(of those that were in it then ..)": one that came or left since doesn't count, or does. */
+    private static void floorByThoseThatWereInItThen() {
+        ShareKeeper x = new ShareKeeper(0, 0, 0);
+        x.group(0, 0);
+        x.group(0, 0);
+        x.task(2);
+        x.task(0);
+        x.work(0, 9);
+        x.work(1, 9);
+        x.run(4);
+        x.move(2, 1);
+        x.run(1);
+        due("who WANTED wasn't in it: lifted to 10000, then a tick", x.vtime(1), 20000);
+        due("it WANTED itself: 0 of a new FLOOR, then a tick", x.vtime(2), 10000);
+        ShareKeeper y = new ShareKeeper(0, 0, 0);
+        y.group(0, 0);
+        y.group(1, 0);
+        y.task(2);
+        y.task(1);
+        y.task(0);
+        y.most(1, 0, 0);
+        y.work(0, 9);
+        y.work(2, 9);
+        y.run(3);
+        y.move(2, 0);
+        due("FLOOR there", y.vtime(2), 20000);
+        y.most(1, -1, 0);
+        y.work(1, 9);
+        y.run(1);
+        due("who WANTED was in it then: not lifted, a tick", y.vtime(1), 10000);
+        due("who", y.who(0), 1);
+    }
+
+    /** "the CHILD which was chosen last": of several PROCESSORS the last that found one. */
+    private static void floorOfTheLastProcessor() {
+        ShareKeeper x = withTasks(2, 2, 9);
+        x.weight(101, 10);
+        x.run(2);
+        due("the first did two", x.vtime(100), 20000);
+        due("the second did two, the later from 100000", x.vtime(101), 200000);
+        x.task(0);
+        x.work(2, 1);
+        x.run(1);
+        due("lifted to 100000: not chosen first, but second", x.who(1), 2);
+        due("then a tick", x.vtime(102), 110000);
+    }
+
     /** "told as with weight(). -1." */
     private static void vtimeOfAllThatIsThere() {
         ShareKeeper x = new ShareKeeper(0, 0, 0);
@@ -734,5 +784,23 @@ public final class BoundsOfTicksTest {
         due("as planned", x.run(200), 60);
         due("behind that", x.plan(0, 1), 61);
         due("100 in all", x.plan(0, 200), 100);
+    }
+
+    /** "An object is used for at most 512 calls": sums stay right up to the last one. */
+    private static void theLastOfAllCalls() {
+        ShareKeeper x = new ShareKeeper(3, 80, 40);
+        x.task(0);
+        x.weight(100, 1);
+        for (int i = 0; i < 100; i++) {
+            x.work(0, 1000);
+        }
+        for (int i = 0; i < 405; i++) {
+            x.run(200);
+        }
+        due("508: the tick", x.count(0), 81001);
+        due("509: USED", x.look(0, 2), 81000);
+        due("510: VTIME", x.vtime(100), 81000000000L);
+        due("511: WORK", x.about(0, 1), 19000);
+        due("512: a plan", x.plan(0, 200), 81200);
     }
 }

@@ -1,3 +1,5 @@
+import java.util.List;
+
 /** Promises 25 to 27: images, and the counts of all. */
 public final class ImagesTest {
     private static final Checks CHECKS = new Checks("ImagesTest");
@@ -10,6 +12,7 @@ public final class ImagesTest {
         promise26NoImage();
         promise26AllComesBack();
         promise26RunsOnAlike();
+        promise26AllThatShowsLaterComesBack();
         promise26LimitsComeBack();
         promise26WhoWantedComesBack();
         promise26NewOnesAreNew();
@@ -125,6 +128,45 @@ public final class ImagesTest {
         due("move", x.move(2, 0), y.move(2, 0));
         due("leasts", x.cellsOf(3, 45, -1, -1), y.cellsOf(3, 45, -1, -1));
         same("alike", seen(x), seen(y));
+    }
+
+    private static void mess(ShareKeeper x) {
+        for (int g = 1; g <= 3; g++) {
+            x.weight(g, 7);
+            x.most(g, 2, 1);
+            x.cellsOf(g, 0, 0, 3);
+            x.freeze(g, g != 3);
+        }
+        for (int t = 0; t <= 2; t++) {
+            x.weight(100 + t, 9);
+            x.worth(t, 900 - t);
+            x.work(t, 30);
+            x.touch(t);
+        }
+        x.move(2, 3);
+        x.task(3);
+        x.work(3, 50);
+        x.ask(3, 3, true);
+        x.run(30);
+        x.group(3, 1);
+    }
+
+    private static void promise26AllThatShowsLaterComesBack() {
+        ShareKeeper x = busy();
+        x.image();
+        ShareKeeper y = busy();
+        y.image();
+        mess(y);
+        due("restore", y.restore(), 16);
+        List<String> got = Portrait.of(y);
+        List<String> want = Portrait.of(x);
+        due("as many answers", got.size(), want.size());
+        for (int i = 0; i < got.size() && i < want.size(); i++) {
+            // What done() tells isn't in an IMAGE.
+            if (!want.get(i).startsWith("done(")) {
+                same("answer " + i, got.get(i), want.get(i));
+            }
+        }
     }
 
     private static void promise26LimitsComeBack() {

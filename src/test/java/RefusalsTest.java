@@ -27,6 +27,7 @@ public final class RefusalsTest {
         refusedElements();
         refusedQuestions();
         refusedRestore();
+        refusedInAFullHouse();
         CHECKS.end();
     }
 
@@ -318,5 +319,44 @@ public final class RefusalsTest {
         }
         CHECKS.due("restore without an IMAGE", x.restore(), -2);
         CHECKS.due("nothing changed", Portrait.of(x).equals(Portrait.of(y)) ? 1 : 0, 1);
+    }
+
+    private static ShareKeeper full() {
+        ShareKeeper x = new ShareKeeper(0, 0, 0);
+        for (int g = 1; g <= 19; g++) {
+            x.group(g <= 5 ? g - 1 : 0, g % 3);
+        }
+        for (int t = 0; t <= 31; t++) {
+            x.task(t % 20);
+        }
+        x.work(31, 9);
+        return x;
+    }
+
+    private static String house(ShareKeeper x) {
+        StringBuilder seen = new StringBuilder();
+        for (int what = 0; what <= 8; what++) {
+            seen.append(x.count(what)).append(' ');
+        }
+        for (int g = 0; g <= 20; g++) {
+            seen.append(x.look(g, 0)).append(x.look(g, 1)).append(x.look(g, 7)).append(x.look(g, 8)).append(' ');
+        }
+        for (int t = 0; t <= 32; t++) {
+            seen.append(x.about(t, 0)).append(x.about(t, 1)).append(' ');
+        }
+        return seen.append(x.run(10)).append(x.about(31, 2)).toString();
+    }
+
+    /** "-2 no room" */
+    private static void refusedInAFullHouse() {
+        String before = house(full());
+        ShareKeeper x = full();
+        CHECKS.due("group", x.group(0, 0), -2);
+        CHECKS.due("group of another KIND", x.group(4, 2), -2);
+        CHECKS.due("group six below", x.group(5, 0), -1);
+        CHECKS.due("task", x.task(0), -2);
+        CHECKS.due("task of the last GROUP", x.task(19), -2);
+        CHECKS.due("move six below", x.move(6, 5), -1);
+        CHECKS.due("nothing changed", house(x).equals(before) ? 1 : 0, 1);
     }
 }

@@ -20,6 +20,9 @@ public final class GroupsTest {
         promise8MovePeriodAndCells();
         promise8MoveSamePlace();
         promise8MoveLeasts();
+        promise8MoveLeavesSaved();
+        promise8MoveLeavesWhatIsInIt();
+        promise8MoveOfFrozenOnes();
         promise17Look();
         CHECKS.end();
     }
@@ -307,6 +310,76 @@ public final class GroupsTest {
         due("less", x.cellsOf(4, 4, -1, -1), 0);
         due("both are as much", x.move(3, 2), 0);
         due("-1 ahead of -3", x.move(2, 3), -1);
+    }
+
+    // What was done moves, what is SAVED doesn't: no sentence says so.
+    private static void promise8MoveLeavesSaved() {
+        ShareKeeper x = new ShareKeeper(0, 0, 0);
+        x.group(0, 1);
+        x.group(1, 1);
+        x.group(0, 1);
+        x.most(1, 5, 20);
+        x.most(2, 3, 20);
+        x.most(3, 4, 20);
+        x.run(10);
+        due("move", x.move(2, 3), 0);
+        due("SAVED of the one it left", x.look(1, 5), 5);
+        due("its own", x.look(2, 5), 3);
+        due("of the one it came to", x.look(3, 5), 4);
+        due("ROOM of the one it left", x.look(1, 4), 10);
+        due("its own room", x.look(2, 4), 6);
+        due("ROOM of the one it came to", x.look(3, 4), 8);
+        x.run(10);
+        due("left, a PERIOD later", x.look(1, 5), 10);
+        due("its own later", x.look(2, 5), 6);
+        due("came to, later", x.look(3, 5), 8);
+    }
+
+    // "its VTIME becomes FLOOR there": its own alone, and its own FLOOR stays.
+    private static void promise8MoveLeavesWhatIsInIt() {
+        ShareKeeper x = new ShareKeeper(0, 0, 0);
+        x.group(0, 0);
+        x.group(0, 0);
+        x.task(1);
+        x.task(1);
+        x.group(1, 0);
+        x.task(3);
+        x.work(0, 3);
+        x.run(3);
+        x.work(2, 1);
+        x.run(1);
+        due("group in it before", x.vtime(3), 30000);
+        due("move", x.move(1, 2), 0);
+        due("its own", x.vtime(1), 0);
+        due("task in it", x.vtime(100), 30000);
+        due("the other one", x.vtime(101), 0);
+        due("group in it", x.vtime(3), 30000);
+        due("task of that", x.vtime(102), 10000);
+        x.work(1, 1);
+        x.run(1);
+        due("lifted to the FLOOR in it, then a tick", x.vtime(101), 30000);
+        due("the moved one", x.vtime(1), 10000);
+        due("the one above, lifted to the root's FLOOR", x.vtime(2), 40000);
+    }
+
+    private static void promise8MoveOfFrozenOnes() {
+        ShareKeeper x = new ShareKeeper(0, 0, 0);
+        x.group(0, 0);
+        x.group(1, 0);
+        x.group(0, 0);
+        x.task(2);
+        x.work(0, 9);
+        x.freeze(2, true);
+        due("move", x.move(2, 3), 0);
+        due("still FROZEN", x.look(2, 9), 1);
+        due("none is done", x.run(2), 0);
+        x.freeze(2, false);
+        x.freeze(3, true);
+        due("out of a FROZEN one", x.move(2, 1), 0);
+        due("not FROZEN itself", x.look(2, 9), 0);
+        due("now they are done", x.run(2), 2);
+        due("into a FROZEN one", x.move(2, 3), 0);
+        due("none any more", x.run(2), 0);
     }
 
     private static void promise17Look() {

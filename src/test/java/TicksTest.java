@@ -16,17 +16,23 @@ public final class TicksTest {
         promise11FloorOfGroups();
         promise11WantedWithoutTick();
         promise11WaitingTasksAreNotLifted();
+        promise11WaitingTasksWithoutRoom();
         promise11GroupsThatRestedAreLifted();
+        promise11FloorFalls();
+        promise11FloorFallsToNothing();
         promise11DeepTrees();
         promise11FullHouse();
         promise11High();
         promise11Saved();
         promise11SavedOnlyOfSaving();
         promise12Who();
+        promise12WhoOfTheLastTask();
         promise19Vtime();
+        promise19VtimeOfNewOnes();
         promise20Pressed();
         promise20PressedMoves();
         promise23Even();
+        promise23EvenWithoutRoom();
         promise24Plan();
         promise24PlanOfSaving();
         CHECKS.end();
@@ -203,6 +209,79 @@ public final class TicksTest {
         due("it WANTED in the tick before: not lifted", x.vtime(100), 3000);
     }
 
+    // "in which none WANTED ahead of CHOOSING in the tick before (.. whether they did a tick or not)"
+    private static void promise11WaitingTasksWithoutRoom() {
+        ShareKeeper x = new ShareKeeper(1, 0, 0);
+        x.group(0, 0);
+        x.task(1);
+        x.task(1);
+        x.weight(100, 1000);
+        x.most(1, 4, 0);
+        x.work(0, 20);
+        x.work(1, 20);
+        x.run(2);
+        due("the floor is 10000", x.vtime(101), 20000);
+        due("below it", x.vtime(100), 2000);
+        x.run(8);
+        due("it did none, but WANTED: not lifted", x.vtime(100), 2000);
+        x.run(1);
+        due("nor as a period begins", x.vtime(100), 3000);
+        ShareKeeper y = new ShareKeeper(1, 0, 0);
+        y.group(0, 0);
+        y.task(1);
+        y.task(1);
+        y.weight(100, 1000);
+        y.most(1, 4, 0);
+        y.work(0, 2);
+        y.work(1, 20);
+        y.run(3);
+        due("without work below the floor", y.vtime(100), 2000);
+        y.work(0, 1);
+        y.run(1);
+        due("it didn't WANT: lifted, though it does none", y.vtime(100), 10000);
+        due("it did none", y.about(0, 2), 2);
+    }
+
+    // "FLOOR of a GROUP is the VTIME that the CHILD which was chosen last had as it was chosen"
+    private static void promise11FloorFalls() {
+        ShareKeeper x = new ShareKeeper(0, 0, 0);
+        x.group(0, 0);
+        x.task(1);
+        x.task(0);
+        x.task(0);
+        x.most(1, 1, 0);
+        x.work(0, 50);
+        x.work(1, 50);
+        x.run(10);
+        due("the floor is 80000", x.vtime(101), 90000);
+        x.run(1);
+        due("chosen at 10000", x.vtime(1), 20000);
+        x.work(2, 5);
+        x.run(1);
+        due("lifted to 10000, then a tick", x.vtime(102), 20000);
+        due("a GROUP that is moved there", x.move(1, 0), 0);
+        due("has it too", x.vtime(1), 10000);
+    }
+
+    private static void promise11FloorFallsToNothing() {
+        ShareKeeper x = new ShareKeeper(0, 0, 0);
+        x.group(0, 0);
+        x.task(1);
+        x.task(0);
+        x.task(0);
+        x.most(1, 0, 0);
+        x.work(0, 50);
+        x.work(1, 50);
+        x.run(3);
+        due("the floor is 20000", x.vtime(101), 30000);
+        x.most(1, 1, 0);
+        x.run(1);
+        due("chosen at 0", x.vtime(1), 10000);
+        x.work(2, 5);
+        x.run(1);
+        due("it stays at 0, then a tick", x.vtime(102), 10000);
+    }
+
     private static void promise11GroupsThatRestedAreLifted() {
         ShareKeeper x = new ShareKeeper(0, 0, 0);
         x.group(0, 0);
@@ -369,6 +448,22 @@ public final class TicksTest {
         due("none any more", x.who(0), -2);
     }
 
+    private static void promise12WhoOfTheLastTask() {
+        ShareKeeper x = new ShareKeeper(3, 0, 0);
+        for (int t = 0; t < 32; t++) {
+            x.task(0);
+        }
+        x.work(31, 2);
+        x.work(20, 1);
+        due("two", x.run(1), 2);
+        due("first", x.who(0), 20);
+        due("second", x.who(1), 31);
+        due("third", x.who(2), -2);
+        due("one", x.run(1), 1);
+        due("the last one", x.who(0), 31);
+        due("no second", x.who(1), -2);
+    }
+
     private static void promise19Vtime() {
         ShareKeeper x = new ShareKeeper(0, 0, 0);
         due("root of a new one", x.vtime(0), -1);
@@ -403,6 +498,27 @@ public final class TicksTest {
             y.run(200);
         }
         due("beyond an int", y.vtime(100), 4000000000L);
+    }
+
+    // The document has no other VTIME at first: 0, also where FLOOR is above it, until one WANTS.
+    private static void promise19VtimeOfNewOnes() {
+        ShareKeeper x = new ShareKeeper(0, 0, 0);
+        x.task(0);
+        x.work(0, 100);
+        x.run(5);
+        x.task(0);
+        x.group(0, 0);
+        due("task", x.vtime(101), 0);
+        due("group", x.vtime(1), 0);
+        x.run(5);
+        due("task without work", x.vtime(101), 0);
+        due("group without tasks", x.vtime(1), 0);
+        x.task(1);
+        x.work(2, 9);
+        due("between 100000 and 0", x.even(0), 100000);
+        x.run(1);
+        due("lifted to 90000, then a tick", x.vtime(1), 100000);
+        due("in it FLOOR is 0", x.vtime(102), 10000);
     }
 
     private static void promise20Pressed() {
@@ -478,6 +594,22 @@ public final class TicksTest {
         long difference = x.vtime(101) - x.vtime(102);
         due("without the frozen one", x.even(0), difference < 0 ? -difference : difference);
         due("nothing changed by it", x.count(0), 10);
+    }
+
+    // "two CHILDREN of a GROUP in which TASKS WANT": ROOM isn't asked for.
+    private static void promise23EvenWithoutRoom() {
+        ShareKeeper x = new ShareKeeper(0, 0, 0);
+        x.group(0, 0);
+        x.task(1);
+        x.task(0);
+        x.most(1, 1, 0);
+        x.work(0, 9);
+        x.work(1, 9);
+        x.run(4);
+        due("no room", x.look(1, 4), 0);
+        due("30000 less 10000", x.even(0), 20000);
+        x.most(0, 0, 0);
+        due("nor the root's", x.even(0), 20000);
     }
 
     private static void promise24Plan() {
